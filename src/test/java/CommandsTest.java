@@ -15,6 +15,7 @@ public final class CommandsTest {
         textsWithoutFault();
         eachCommand();
         commandsThatWouldThrow();
+        settlingNearTheGreatestNumber();
         daysCommand();
         runsAreUndone();
         longestText();
@@ -74,6 +75,11 @@ public final class CommandsTest {
         fault("daysS 1;", 4);
         fault("day 1;", 0);
         fault("dayss 1;", 0);
+        fault("xays 1;", 0);
+        fault("daysz 1;", 0);
+        fault("daysa 1;", 0);
+        fault("days` 1;", 4);
+        fault("days{ 1;", 4);
         fault("  dayss", 2);
         fault("d", 0);
         fault("days", 4);             // it ends too soon
@@ -234,6 +240,21 @@ public final class CommandsTest {
                 whole(0) = 2
                 whole(1) = 2
                 whole(2) = 2
+                """);
+    }
+
+    private static void settlingNearTheGreatestNumber() {
+        Script.run("27 accept and refuse near the greatest number", WORLD + """
+                log(0, 2, 5) = 1
+                doubt(0) = 5
+                credit(0, 2, 2147483643) = 2147483643
+                text "days 1; accept 0;" = 17
+                runCommands() = 1             // it would be one hour too many
+                apprentice(0, 3) = 1
+                text "refuse 0;" = 9
+                runCommands() = 1             // what is refused is not added
+                apprentice(0, 3) = 0
+                apprentice(0, 6) = 5
                 """);
     }
 

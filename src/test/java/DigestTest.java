@@ -6,7 +6,7 @@ import java.util.List;
 public final class DigestTest {
     public static void main(String[] arguments) {
         emptyObject();
-        everyValue();
+        busyObject();
         Script.end();
     }
 
@@ -36,7 +36,7 @@ public final class DigestTest {
                 2, 0, 2, 0, 0, 0, 0, 0, 0, 0, 1, 3, 7, 0, 0, 0, 2, 1, 0, 0, 0)));
     }
 
-    private static void everyValue() {
+    private static void busyObject() {
         TradeLogs logs = Script.run("29 digest", """
                 addTrade(30, 20, 1) = 0
                 addTrade(0, 0, 0) = 1
@@ -60,22 +60,31 @@ public final class DigestTest {
                 type(100) = 1
                 type(97) = 2
                 """);
+        Script.check("29 digest of every value", logs.digest(), hashOf(everyValue(0, -1)));
+        Script.check("29 digest again", logs.digest(), hashOf(everyValue(0, -1)));
+        logs.release(1, 0);
+        Script.check("29 digest with a release on day 0", logs.digest(), hashOf(everyValue(1, 0)));
+    }
+
+    /** The values in their order, with the release days of apprentice 1 and its first one. */
+    private static List<Integer> everyValue(int releases, int firstRelease) {
         List<Integer> values = new ArrayList<>(List.of(
-                4, 2, 2, 3, 1, 3, 1, 1, 1, 1, 2,      // the stack, then the whole
-                3, 3, 1, 2, 0,  4, 1, 1, 1, 1,         // the mentors
+                4, 2, 2, 3, 1, 3, 1, 1, 1, 1, 2,       // the stack, then the whole
+                3, 3, 1, 2, 0,  4, 1, 1, 1, 1));       // the mentors
+        values.addAll(List.of(
                 0, 0, 2, 1, 8, 2, 1, 1, 2, 5, 0, 0,    // apprentice 0
                 30, 0, 30, 5, 0,  20, 0, 20, 0, 2,  1, 0, 1, 3, 0,
-                2, 3, 0, 0,  0, 5, 1, 0,  1, 2, 0, 0,
-                1, 9,
-                1, -1, 0, 0, 0, 0, 0, 0, 0, 0, 0, 1,   // apprentice 1
+                2, 3, 0, 0,  0, 5, 1, 0,  1, 2, 0, 0,  // entries: two pending, one doubted
+                1, 9));                                // the best mentor, the first release day
+        values.addAll(List.of(
+                1, -1, 0, 0, 0, 0, 0, releases, 0, 0, 0, 1,
                 0, 0, 0, 0, 0,  0, 0, 0, 0, 0,  0, 0, 0, 0, 0,
-                0, -1));
+                0, firstRelease));
         values.addAll(List.of(
                 0, 1, 1, 0, 6, 0, 0, 0, 2, 6, 0, 0,    // apprentice 2
                 30, 4, 26, 0, 0,  20, 0, 20, 6, 0,  1, 0, 1, 0, 0,
                 1, 6, 1, 1,
                 0, -1));
-        Script.check("29 digest of every value", logs.digest(), hashOf(values));
-        Script.check("29 digest again", logs.digest(), hashOf(values));
+        return values;
     }
 }

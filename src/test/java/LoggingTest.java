@@ -164,6 +164,16 @@ public final class LoggingTest {
                 confirm(0, 99) = 1
                 part(1, 1, 1) = 2147483647
                 """);
+        for (int part = 0; part < 3; part++) {
+            Script.run("7 confirm, done hours of each part", TWO_MENTORS + """
+                    credit(0, PART, 2147483646) = 2147483646
+                    log(0, PART, 2) = 1
+                    confirm(0, 99) throws IllegalStateException
+                    credit(0, PART, -1) = 2147483645
+                    confirm(0, 99) = 1
+                    part(0, PART, 1) = 2147483647
+                    """.replace("PART", String.valueOf(part)));
+        }
     }
 
     private static void doubts() {

@@ -66,8 +66,9 @@ public final class ModelTest {
         for (int apprentice = 0; apprentice < 6; apprentice++) {
             call("addApprentice", random.nextInt(2), random.nextInt(5) - 1);
         }
-        if (random.nextInt(8) == 0) {
-            call("credit", 0, 0, 2147483647 - random.nextInt(20));
+        if (random.nextInt(4) == 0) {
+            call("credit", below(6), below(3), 2147483647 - random.nextInt(20));
+            call("credit", below(6), below(3), 2147483647 - random.nextInt(20));
         }
     }
 
@@ -82,6 +83,7 @@ public final class ModelTest {
 
     private void anyCall() {
         int dice = random.nextInt(100);
+        // Many calls log work, for what is logged keeps the others busy.
         if (dice < 30) {
             call("log", below(7), below(3), 1 + below(7));
         } else if (dice < 40) {

@@ -138,20 +138,28 @@ public final class TradesTest {
                 whole(2) = 9
                 apprentice(9, 0) throws IndexOutOfBoundsException
                 """);
-        Script.run("4 a number that was used before undo stands for a new apprentice", """
+        Script.run("4 a number that was used before undo stands for a new one", """
                 addTrade(1, 1, 1) = 0
-                addMentor(2, 1) = 0
-                addApprentice(0, 0) = 0
-                text "log 0 1 3; doubt 0; refuse 0; log 0 2 4; log 0 0 1; confirm 0;" = 62
-                release(0, 7) = 1
-                runCommands() = 6
-                credit(0, 1, 50) = 50
-                undo() = 3
-                undo() = 2
+                text "mentor 5 1;mentor 6 1;pupil 0 0;log 0 1 3;doubt 0;refuse 0;log 0 2 4;log 0 0 1;log 0 1 1;confirm 0;" = 99
+                runCommands() = 10
+                mentor(0, 4) = 3
+                apprentice(0, 6) = 3
                 undo() = 1
-                undo() = 0
+                text "mentor 5 1;mentor 6 1;pupil 0 0;log 0 1 3;log 0 1 4;doubt 0;free 0 7;free 0 199;move 0 1;" = 89
+                runCommands() = 9
+                apprentice(0, 3) = 2
+                undo() = 1
+                text "mentor 5 1;pupil 0 0;log 0 1 3;log 0 1 4;free 0 0;" = 50
+                runCommands() = 4
+                apprentice(0, 2) = 2
+                undo() = 1
+                whole(1) = 0
                 whole(2) = 0
+                addMentor(2, 1) = 0
+                mentor(0, 4) = 0
+                mentor(0, 0) = 2
                 addApprentice(0, 0) = 0
+                apprentice(0, 1) = 0
                 whole(8) = 0
                 apprentice(0, 2) = 0
                 apprentice(0, 3) = 0
@@ -165,6 +173,22 @@ public final class TradesTest {
                 part(0, 2, 1) = 0
                 nextRelease(0, 0) = -1
                 release(0, 0) = 1
+                """);
+        Script.run("4 part values of a number that was used before undo", """
+                addTrade(5, 5, 5) = 0
+                addMentor(2, 1) = 0
+                text "pupil 0 0;log 0 0 1;log 0 1 2;log 0 2 3;confirm 0;" = 50
+                runCommands() = 5
+                part(0, 0, 1) = 1
+                part(0, 1, 1) = 2
+                part(0, 2, 1) = 3
+                undo() = 2
+                addApprentice(0, 0) = 0
+                part(0, 0, 1) = 0
+                part(0, 1, 1) = 0
+                part(0, 2, 1) = 0
+                log(0, 0, 12) = 1
+                apprentice(0, 8) = 1
                 """);
     }
 

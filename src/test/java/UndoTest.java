@@ -90,6 +90,19 @@ public final class UndoTest {
         undone("leave(0) = 0");
         undone("exchange(0, 1) = 3");
         undone("runCommands() = 0");
+        Script.run("28 undo brings back that no work was logged", """
+                addTrade(1, 1, 1) = 0
+                addMentor(1, 1) = 0
+                addApprentice(0, 0) = 0
+                log(0, 0, 1) = 1
+                release(0, 0) throws IllegalStateException
+                undo() = 3
+                release(0, 0) = 1
+                log(0, 0, 1) throws IllegalStateException
+                undo() = 3
+                nextRelease(0, 0) = -1
+                log(0, 0, 1) = 1
+                """);
     }
 
     private static void undone(String call) {

@@ -121,6 +121,12 @@ public final class ValuesTest {
                 apprentice(0, 11) = 0
                 credit(0, 2, 1) = 10
                 apprentice(0, 11) = 1
+                whole(6) = 2
+                credit(0, 0, -1) = 29
+                apprentice(0, 11) = 0
+                credit(0, 0, 1) = 30
+                credit(0, 1, -2147483628) = 19
+                apprentice(0, 11) = 0
                 part(4, 0, 0) throws IndexOutOfBoundsException
                 part(-1, 3, 5) throws IndexOutOfBoundsException
                 part(0, -1, 0) throws IllegalArgumentException

@@ -63,6 +63,13 @@ public final class WhatIfTest {
                 endDay() = 0
                 release(0, 1) = 1
                 completeOn(0, 1) = 1
+                credit(0, 2, 1) = 1
+                addTrade(1, 0, 0) = 1
+                addApprentice(1, -1) = 1
+                completeOn(1, 1) = 1          // one hour is missing
+                release(1, 1) = 1
+                release(1, 2) = 2
+                completeOn(1, 12) = 3
                 """);
     }
 
