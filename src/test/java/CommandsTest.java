@@ -259,7 +259,7 @@ public final class CommandsTest {
     }
 
     private static void daysCommand() {
-        TradeLogs logs = Script.run("27 days", WORLD + """
+        Script.run("27 days", WORLD + """
                 text "days 0;" = 7
                 runCommands() = 0
                 text "days 31;" = 8
@@ -272,11 +272,9 @@ public final class CommandsTest {
                 apprentice(0, 3) = 1          // doubted on the way
                 apprentice(0, 9) = 0
                 """);
-        Script.typed(logs, "days 30;");
-        for (int times = 0; times < 331; times++) {
-            logs.runCommands();
-        }
-        Script.more(logs, "27 days, near the last one", """
+        Script.run("27 days, near the last one", """
+                text "days 30;" = 8
+                333 times runCommands() = 1
                 whole(3) = 9990
                 text "days 10;" = 8
                 runCommands() = 0

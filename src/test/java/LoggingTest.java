@@ -315,12 +315,9 @@ public final class LoggingTest {
     }
 
     private static void endOfTheLastDay() {
-        TradeLogs logs = Script.run("11 endDay, near the last day", "");
-        Script.typed(logs, "days 30;");
-        for (int times = 0; times < 333; times++) {
-            logs.runCommands();
-        }
-        Script.more(logs, "11 endDay, near the last day", """
+        Script.run("11 endDay, near the last day", """
+                text "days 30;" = 8
+                333 times runCommands() = 1
                 whole(3) = 9990
                 text "days 8;" = 7
                 runCommands() = 1

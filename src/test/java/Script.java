@@ -1,5 +1,7 @@
 import java.lang.reflect.InvocationTargetException;
 import java.lang.reflect.Method;
+import java.util.IdentityHashMap;
+import java.util.Map;
 import java.util.Set;
 
 /**
@@ -8,14 +10,18 @@ import java.util.Set;
  *   addTrade(1, 2, 3) = 0
  *   addTrade(0, 0, 2001) throws IllegalArgumentException
  *   text "days 1;" = 7
+ *   300 times runCommands() = 1
  *
  * The third line is short for clearCommands() and a type(..) for each byte. A line may
  * end with a comment behind "//". Of each call that throws, and of each that only asks,
  * it is looked at too that the digest is the same behind it as before.
  */
 final class Script {
+    // The document promises nothing of later calls of an object.
+    private static final int MOST_CALLS = 512;
     private static final Set<String> QUESTIONS = Set.of("reason", "mentor", "apprentice", "part",
             "entry", "whole", "completeOn", "bestMentor", "doubtsBy", "nextRelease", "digest");
+    private static final Map<TradeLogs, Integer> CALLS = new IdentityHashMap<>();
 
     private static int right = 0;
     private static int wrong = 0;
@@ -32,40 +38,101 @@ final class Script {
 
     static void more(TradeLogs object, String title, String text) {
         for (String line : text.split("\n")) {
-            int comment = line.indexOf("//");
-            String call = (comment < 0 ? line : line.substring(0, comment)).trim();
+            String call = withoutComment(line);
             if (!call.isEmpty()) {
                 runLine(object, title, call);
             }
         }
+        boolean promised = CALLS.getOrDefault(object, 0) <= MOST_CALLS;
+        check(title + ": no more calls than the document promises", promised, true);
+    }
+
+    /** Runs those lines of a text that change something, and looks at no answer. */
+    static TradeLogs runChanges(String text) {
+        TradeLogs object = new TradeLogs();
+        for (String line : text.split("\n")) {
+            String call = withoutComment(line);
+            if (call.startsWith("text ")) {
+                typed(object, bytesOf(call));
+            } else if (!call.isEmpty() && !call.contains(" throws ") && !isQuestion(call)) {
+                for (int times = timesOf(call); times > 0; times--) {
+                    answer(object, callOf(call));
+                }
+            }
+        }
+        return object;
     }
 
     private static void runLine(TradeLogs object, String title, String line) {
         String what = title + ": " + line;
+        String due = dueOf(line);
         if (line.startsWith("text ")) {
-            int end = line.lastIndexOf('"');
-            String bytes = line.substring(line.indexOf('"') + 1, end);
-            check(what, typed(object, bytes), line.substring(line.indexOf('=', end) + 1).trim());
+            check(what, typed(object, bytesOf(line)), due);
             return;
         }
-        int close = line.indexOf(')');
-        String due = line.substring(close + 1).trim().replaceFirst("^=\\s*", "")
-                .replaceFirst("^throws\\s+", "throws.");
-        long before = object.digest();
-        String got = answer(object, line.substring(0, close + 1));
-        check(what, got, due);
-        boolean changesNothing = got.startsWith("throws.")
-                || QUESTIONS.contains(line.substring(0, line.indexOf('(')));
-        if (changesNothing) {
-            check(what + " changes nothing", object.digest(), before);
+        if (timesOf(line) > 1) {
+            for (int times = timesOf(line); times > 0; times--) {
+                check(what, answer(object, callOf(line)), due);
+            }
+            return;
         }
+        long before = digestOf(object);
+        String got = answer(object, callOf(line));
+        check(what, got, due);
+        if (got.startsWith("throws.") || isQuestion(line)) {
+            check(what + " changes nothing", digestOf(object), before);
+        }
+    }
+
+    // ---- the parts of a line
+
+    static String withoutComment(String line) {
+        int comment = line.indexOf("//");
+        return (comment < 0 ? line : line.substring(0, comment)).trim();
+    }
+
+    private static String bytesOf(String line) {
+        return line.substring(line.indexOf('"') + 1, line.lastIndexOf('"'));
+    }
+
+    private static int timesOf(String line) {
+        int end = line.indexOf(" times ");
+        return end < 0 ? 1 : Integer.parseInt(line.substring(0, end));
+    }
+
+    static String callOf(String line) {
+        int start = line.indexOf(" times ");
+        return line.substring(start < 0 ? 0 : start + 7, line.indexOf(')') + 1);
+    }
+
+    private static String dueOf(String line) {
+        int end = line.startsWith("text ") ? line.lastIndexOf('"') : line.indexOf(')');
+        return line.substring(end + 1).trim().replaceFirst("^=\\s*", "")
+                .replaceFirst("^throws\\s+", "throws.");
+    }
+
+    static boolean isQuestion(String line) {
+        return QUESTIONS.contains(line.substring(0, line.indexOf('(')));
+    }
+
+    // ---- calls
+
+    private static void count(TradeLogs object) {
+        CALLS.merge(object, 1, Integer::sum);
+    }
+
+    static long digestOf(TradeLogs object) {
+        count(object);
+        return object.digest();
     }
 
     /** Types a text into the emptied command text; answers its length. */
     static long typed(TradeLogs object, String text) {
+        count(object);
         object.clearCommands();
         long length = 0;
         for (int index = 0; index < text.length(); index++) {
+            count(object);
             length = object.type(text.charAt(index));
         }
         return length;
@@ -83,6 +150,7 @@ final class Script {
             arguments[index] = truth ? (Object) Boolean.valueOf(texts[index])
                     : (Object) Integer.valueOf(texts[index]);
         }
+        count(object);
         try {
             return String.valueOf(method.invoke(object, arguments));
         } catch (InvocationTargetException thrown) {

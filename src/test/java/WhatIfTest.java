@@ -99,15 +99,11 @@ public final class WhatIfTest {
     }
 
     private static void completionAtTheLastDays() {
-        TradeLogs logs = Script.run("21 completeOn, near the last day", """
+        Script.run("21 completeOn, near the last day", """
                 addTrade(2000, 0, 0) = 0
                 addApprentice(0, -1) = 0
-                """);
-        Script.typed(logs, "days 30;");
-        for (int times = 0; times < 333; times++) {
-            logs.runCommands();
-        }
-        Script.more(logs, "21 completeOn, near the last day", """
+                text "days 30;" = 8
+                333 times runCommands() = 1
                 whole(3) = 9990
                 completeOn(0, 1) = 11989
                 """);
