@@ -43,6 +43,18 @@ final class Sentences {
         }
     }
 
+    /**
+     * Holds the class against a sentence that says "Undoable": a call and undo leave the same
+     * behind as a run without commands, which saves a state and changes nothing, and undo. The
+     * text before it saves four states or more, and the last of them is no empty change.
+     */
+    static void undoable(int promise, String sentence, String text, String call) {
+        String title = quote(promise, sentence);
+        TradeLogs object = Script.run(title, text + call + "\nundo() = 3\n");
+        TradeLogs twin = Script.run(title, text + "runCommands() = 0\nundo() = 3\n");
+        compareWithTwin(title + ", " + call, object, twin);
+    }
+
     /** Says that a sentence names no boundary, and so needs no test of one. */
     static void namesNoBoundary(int promise, String sentence) {
         quote(promise, sentence);

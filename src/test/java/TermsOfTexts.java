@@ -24,6 +24,7 @@ final class TermsOfTexts {
         digits();
         spaces();
         commands();
+        settlingCommands();
         days();
         firstBytesAtFault();
         textsThatEndTooSoon();
@@ -145,6 +146,24 @@ final class TermsOfTexts {
                 """);
     }
 
+    /** The commands of settle, where the one that accepts would make too many done hours. */
+    private static void settlingCommands() {
+        String greatest = TWO_APPRENTICES + """
+                log(0, 1, 5) = 1
+                doubt(0) = 5
+                credit(0, 1, 2147483643) = 2147483643
+                """;
+        Sentences.holds(TERMS, sentenceOf("accept"), greatest + answers("accept 0;", 0)
+                + "credit(0, 1, -1) = 2147483642\nrunCommands() = 1\n" + """
+                part(0, 1, 1) = 2147483647
+                apprentice(0, 6) = 0
+                """);
+        Sentences.holds(TERMS, sentenceOf("refuse"), greatest + answers("refuse 0;", 1) + """
+                part(0, 1, 1) = 2147483643
+                apprentice(0, 6) = 5
+                """);
+    }
+
     private static String sentenceOf(String word) {
         switch (word) {
             case "mentor": return "mentor r t (addMentor(r, t))";
@@ -211,7 +230,7 @@ final class TermsOfTexts {
                 + " is complete: when a byte that is no letter, or the end of the text, follows it.";
         Sentences.holds(TERMS, sentence, TWO_APPRENTICES
                 + fault("day 1;", 0) + fault("dayss 1;", 0) + fault("day;", 0) + fault("day1;", 0)
-                + fault("dayS", 0) + fault("day", 0) + fault("  day", 2) + fault("  day ", 2)
+                + fault("dayS", 0) + fault("daysz 1;", 0) + fault("daysa 1;", 0) + fault("day", 0) + fault("  day", 2) + fault("  day ", 2)
                 + fault("days 1;dayz", 7) + fault("days 1; x;", 8) + fault("daysdays 1;", 0)
                 + fault("a", 0) + fault("z", 0) + fault("x\0", 0));
         Sentences.holds(TERMS, sentence, TWO_APPRENTICES
