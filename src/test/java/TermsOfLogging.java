@@ -96,6 +96,56 @@ final class TermsOfLogging {
                 confirm(0, 99) = 1
                 confirm(2, 99) = 0            // never its mentor
                 """);
+        Sentences.holds(TERMS, "of all apprentices whose mentor it is now", """
+                addTrade(40, 30, 20) = 0
+                addMentor(6, 1) = 0
+                addMentor(6, 1) = 1
+                text "pupil 0 0;pupil 0 0;pupil 0 1;pupil 0 0;pupil 0 1;" = 50
+                2 times runCommands() = 5
+                whole(2) = 10                 // there can be no more
+                log(0, 0, 1) = 1
+                log(9, 0, 2) = 1
+                log(8, 0, 4) = 1
+                confirm(1, 99) = 1
+                part(9, 0, 1) = 2             // the last one, too
+                confirm(0, 99) = 2
+                confirm(0, 1) = 0
+                confirm(1, 99) = 0
+                """);
+        Sentences.holds(TERMS, "of all apprentices whose mentor it is now", """
+                addTrade(40, 30, 20) = 0
+                addMentor(6, 1) = 0
+                addApprentice(0, 0) = 0
+                credit(0, 0, 0) = 0
+                addApprentice(0, 0) = 1
+                log(1, 0, 5) = 1
+                undo() = 3
+                undo() = 2
+                confirm(0, 99) = 0            // there is no such apprentice, nor an entry of it
+                mentor(0, 4) = 0
+                addApprentice(0, 0) = 1
+                credit(1, 0, 2147483647) = 2147483647
+                log(1, 0, 5) = 1
+                undo() = 3
+                undo() = 2
+                undo() = 1
+                log(0, 0, 1) = 1
+                confirm(0, 99) = 1
+                """);
+        Sentences.holds(TERMS, "of all apprentices whose mentor it is now", """
+                addTrade(40, 30, 20) = 0
+                addMentor(6, 1) = 0
+                addApprentice(0, 0) = 0
+                addApprentice(0, 0) = 1
+                credit(1, 0, 2147483647) = 2147483647
+                log(1, 0, 5) = 1
+                confirm(0, 99) throws IllegalStateException
+                undo() = 3
+                undo() = 2
+                undo() = 1
+                whole(2) = 1
+                confirm(0, 99) = 0            // the hours of one that is no more are in nobody's way
+                """);
         Sentences.holds(TERMS, "by ascending numbers", FOUR_APPRENTICES + """
                 move(3, 1) throws IllegalStateException
                 log(1, 0, 2) = 1
