@@ -127,7 +127,7 @@ public final class TradeLogs {
     public int endDay() throws IllegalStateException {
         refuse(faultOfDays(1));
         undoStack.save(state);
-        return state.passDay();
+        return state.passDays(1);
     }
 
     // ---- moves
@@ -324,7 +324,7 @@ public final class TradeLogs {
     }
 
     private static boolean isPart(int part) {
-        return isWithin(part, 0, PARTS - 1);
+        return part >= 0 && part < PARTS;
     }
 
     private int faultOfTrade(int first, int second, int third) {
@@ -1131,7 +1131,8 @@ public final class TradeLogs {
         }
 
         private int needOf(Apprentice one, int part) {
-            return hasTrade(one.trade) && isPart(part) ? needs[one.trade][part] : 0;
+            boolean known = one.trade >= 0 && one.trade < tradeCount && part >= 0 && part < PARTS;
+            return known ? needs[one.trade][part] : 0;
         }
 
         private int missingIn(Apprentice one, int part) {
@@ -1277,21 +1278,17 @@ public final class TradeLogs {
             return apprenticeAt(apprentice).doneIn(part);
         }
 
-        /** Ends the day; answers how many entries become doubted. */
-        int passDay() {
+        /** Ends so many days; answers how many entries become doubted. */
+        int passDays(int days) {
             int count = 0;
-            for (int index = 0; index < apprenticeCount; index++) {
-                count += apprentices[index].doubtUntil(day - DOUBT_AGE);
-                apprentices[index].hoursToday = 0;
-            }
-            day++;
-            return count;
-        }
-
-        void passDays(int days) {
             for (int ended = 0; ended < days; ended++) {
-                passDay();
+                for (int index = 0; index < apprenticeCount; index++) {
+                    count += apprentices[index].doubtUntil(day - DOUBT_AGE);
+                    apprentices[index].hoursToday = 0;
+                }
+                day++;
             }
+            return count;
         }
 
         int moveTo(int apprentice, int mentor) {

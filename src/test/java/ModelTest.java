@@ -25,6 +25,8 @@ public final class ModelTest {
     private final Model model = new Model();
     private final List<String> calls = new ArrayList<>();
     private boolean same = true;
+    // The day from which on release days are put.
+    private int firstFree;
 
     private ModelTest(int seed) {
         random = new Random(seed);
@@ -40,6 +42,11 @@ public final class ModelTest {
 
     private void go() {
         boolean texts = random.nextInt(3) == 0;
+        switch (random.nextInt(12)) {
+            case 0 -> passToTheEndOfReleases();
+            case 1 -> passToTheLastDays();
+            default -> { }
+        }
         if (random.nextInt(4) > 0) {
             begin();
         }
@@ -53,6 +60,22 @@ public final class ModelTest {
                 call("digest");
             }
         }
+    }
+
+    private void passToTheEndOfReleases() {
+        type("days 30;".repeat(6));
+        call("runCommands");
+        firstFree = 175;
+    }
+
+    private void passToTheLastDays() {
+        type("days 30;".repeat(18));
+        for (int run = 0; run < 18; run++) {
+            call("runCommands");
+        }
+        call("clearCommands");
+        type("days 30;".repeat(9));
+        call("runCommands");
     }
 
     /** A start in which most calls have something to do. */
@@ -102,7 +125,7 @@ public final class ModelTest {
             case 0 -> call("addTrade", below(40), below(40), below(40));
             case 1 -> call("addMentor", 1 + below(6), below(32));
             case 2 -> call("addApprentice", below(3), below(5) - 1);
-            case 3, 4 -> call("release", below(7), random.nextInt(3) == 0 ? below(200) : below(40));
+            case 3, 4 -> call("release", below(7), releaseDay());
             case 5 -> call("confirm", below(5), random.nextInt(3) == 0 ? 99 : 1 + below(6));
             case 6, 7 -> call("doubt", below(7));
             case 8 -> call("settle", below(7), random.nextBoolean());
@@ -111,6 +134,10 @@ public final class ModelTest {
             case 12 -> call("leave", below(7));
             default -> call("exchange", below(7), below(7));
         }
+    }
+
+    private int releaseDay() {
+        return random.nextInt(3) == 0 ? below(200) : firstFree + below(40);
     }
 
     private void ask() {
@@ -124,7 +151,7 @@ public final class ModelTest {
             case 7, 8 -> call("completeOn", below(7), 1 + below(12));
             case 9 -> call("bestMentor", below(7));
             case 10 -> call("doubtsBy", below(7), below(7));
-            default -> call("nextRelease", below(7), below(60));
+            default -> call("nextRelease", below(7), firstFree + below(60));
         }
     }
 
@@ -134,12 +161,16 @@ public final class ModelTest {
         if (random.nextInt(3) == 0 && !text.isEmpty()) {
             text = spoilt(text);
         }
-        for (int index = 0; index < text.length() && calls.size() < CALLS - 2; index++) {
-            call("type", (int) text.charAt(index));
-        }
+        type(text);
         call("runCommands");
         if (random.nextInt(4) == 0) {
             call("runCommands");
+        }
+    }
+
+    private void type(String text) {
+        for (int index = 0; index < text.length() && calls.size() < CALLS - 2; index++) {
+            call("type", (int) text.charAt(index));
         }
     }
 
